@@ -22,7 +22,9 @@ public final class YearsTest {
     test.weighs();
     test.weighsTies();
     test.weighsByDistance();
+    test.weighsByTheMostThatCounts();
     test.weighsNothing();
+    test.fullArchive();
     test.line();
     test.mean();
     test.digest();
@@ -283,9 +285,37 @@ public final class YearsTest {
     checks.due("a knot at 1 is worth 9998 * 9998: weighs()", x.weighs(), 4);
   }
 
+  /** A change of 2147483646 is less than one of 2147483647, which is the most that counts. */
+  private void weighsByTheMostThatCounts() {
+    // 1386 * 4681 * 331 is 2147483646.
+    int[] factors = {1386, 4681, 331};
+    KnotArchive x = new KnotArchive();
+    x.hang(-1, 0);
+    x.hang(0, 4);
+    x.hang(1, 0);
+    for (int factor : factors) {
+      x.tie(x.hang(1, 0), factor);
+    }
+    checks.due("0 times 2147483646: weighs()", x.weighs(), 2);
+    x.hang(0, 4);
+    x.hang(6, 0);
+    x.hang(6, 4);
+    x.tie(8, 1);
+    for (int factor : factors) {
+      x.tie(x.hang(8, 0), factor);
+    }
+    checks.due("1 + 2147483646: cord(8, 3)", x.cord(8, 3), Integer.MAX_VALUE);
+    checks.due("0 times 2147483647: weighs()", x.weighs(), 7);
+    x.tie(8, 2);
+    checks.due("0 times -2147483648: weighs()", x.weighs(), 7);
+    x.tie(8, 0);
+    checks.due("both 2147483646: weighs()", x.weighs(), 2);
+  }
+
   private void weighsNothing() {
     KnotArchive x = new KnotArchive();
     checks.due("no cord: weighs()", x.weighs(), -1);
+    checks.due("one cord: weighs()", single(0, 8).weighs(), 0);
     x.hang(-1, 3);
     x.tie(0, 9);
     checks.due("9 alone: weighs()", x.weighs(), -1);
@@ -295,6 +325,39 @@ public final class YearsTest {
     checks.due("no other is more than 0: weighs()", x.weighs(), -1);
     x.hang(0, 0);
     checks.due("one that would be: weighs()", x.weighs(), 3);
+  }
+
+  /** All rows are full: 16 cords, 6 witnesses who remember all, 30 untyings. */
+  private void fullArchive() {
+    KnotArchive x = new KnotArchive();
+    for (int cord = 0; cord < 16; cord++) {
+      x.tie(x.hang(cord - 1, 0), 1000);
+    }
+    for (int witness = 0; witness < 6; witness++) {
+      x.call();
+      for (int cord = 0; cord < 16; cord++) {
+        checks.due("full: read(" + witness + ", " + cord + ")", x.read(witness, cord), 1000 * (16 - cord));
+      }
+    }
+    for (int i = 0; i < 30; i++) {
+      x.tie(15, 1001);
+      checks.due("full: untie(5, 15, 3, 1)", x.untie(5, 15, 3, 1), 1000);
+    }
+    checks.due("full: cord(0, 3)", x.cord(0, 3), 16000);
+    checks.due("full: fades(0, 10)", x.fades(0, 10), 0);
+    checks.due("full: weighs()", x.weighs(), 0);
+    checks.dueDouble("full: mean()", x.mean(), 10);
+    checks.due("full: dispute(15)", x.dispute(15), 1000);
+    checks.dueDouble("full: mean() then", x.mean(), 11);
+    // The last two agree: nothing hangs from the cord 15, and the cord 14 bears what this one says.
+    int[] due = {0, 16, 6, 16, 30, 14, 16000, 0};
+    for (int what = 0; what < 8; what++) {
+      checks.due("full: count(" + what + ")", x.count(what), due[what]);
+    }
+    checks.due("full: untying(29, 1)", x.untying(29, 1), 15);
+    checks.due("full: line(15)", x.line(15), "15:0:1000".hashCode());
+    checks.due("full: pass(10)", x.pass(10), 16);
+    checks.due("full: count(7)", x.count(7), 16);
   }
 
   // Promise 19
