@@ -48,6 +48,18 @@ final class Checks {
     }
   }
 
+  void index(String call, KnotArchive archive, IntSupplier made) {
+    refused(call, archive, IndexOutOfBoundsException.class, made);
+  }
+
+  void argument(String call, KnotArchive archive, IntSupplier made) {
+    refused(call, archive, IllegalArgumentException.class, made);
+  }
+
+  void state(String call, KnotArchive archive, IntSupplier made) {
+    refused(call, archive, IllegalStateException.class, made);
+  }
+
   private void fail(String what) {
     wrong++;
     System.out.println(test + ": " + what);

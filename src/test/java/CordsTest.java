@@ -272,18 +272,8 @@ public final class CordsTest {
     checks.refused("cord(5, 0)", x, INDEX, () -> x.cord(5, 0));
   }
 
-  /** A cord of this strand with cords that say these numbers, each 0 to 9999, hanging from it. */
-  private static KnotArchive bundle(int strand, int... numbers) {
-    KnotArchive x = new KnotArchive();
-    x.hang(-1, strand);
-    for (int number : numbers) {
-      x.tie(x.hang(0, 0), number);
-    }
-    return x;
-  }
-
   private void counts(int strand, int want, int... numbers) {
-    KnotArchive x = bundle(strand, numbers);
+    KnotArchive x = Scenes.bundled(strand, numbers);
     x.tie(0, 5000);
     String call = "strand " + strand + " of " + java.util.Arrays.toString(numbers);
     checks.due(call + ": cord(0, 4)", x.cord(0, 4), want);
@@ -313,7 +303,7 @@ public final class CordsTest {
   }
 
   private void strandsWrapAround() {
-    KnotArchive product = bundle(4, 9999, 9999, 9999);
+    KnotArchive product = Scenes.bundled(4, 9999, 9999, 9999);
     checks.due("9999 to the third", product.cord(0, 3), 9999 * 9999 * 9999);
     KnotArchive x = new KnotArchive();
     x.hang(-1, 2);
@@ -335,14 +325,14 @@ public final class CordsTest {
   }
 
   private void cordAgrees() {
-    KnotArchive x = bundle(0, 4000, 5999);
+    KnotArchive x = Scenes.bundled(0, 4000, 5999);
     checks.due("0 for 9999: cord(0, 6)", x.cord(0, 6), 0);
     x.tie(0, 9999);
     checks.due("9999 for 9999: cord(0, 6)", x.cord(0, 6), 1);
     checks.due("nothing hangs: cord(1, 6)", x.cord(1, 6), 1);
     x.tie(1, 4001);
     checks.due("9999 for 10000: cord(0, 6)", x.cord(0, 6), 0);
-    KnotArchive empty = bundle(4, 0);
+    KnotArchive empty = Scenes.bundled(4, 0);
     checks.due("0 for 0: cord(0, 6)", empty.cord(0, 6), 1);
     empty.tie(0, 1);
     checks.due("1 for 0: cord(0, 6)", empty.cord(0, 6), 0);

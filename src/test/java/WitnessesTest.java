@@ -26,22 +26,6 @@ public final class WitnessesTest {
     test.checks.end();
   }
 
-  private static KnotArchive archive(int cords, int witnesses) {
-    KnotArchive x = new KnotArchive();
-    for (int cord = 0; cord < cords; cord++) {
-      x.hang(-1, 0);
-    }
-    for (int witness = 0; witness < witnesses; witness++) {
-      x.call();
-    }
-    return x;
-  }
-
-  private static void readAs(KnotArchive x, int witness, int cord, int number) {
-    x.tie(cord, number);
-    x.read(witness, cord);
-  }
-
   private void trusts(String when, KnotArchive x, int... due) {
     for (int witness = 0; witness < due.length; witness++) {
       checks.due(when + ": trust(" + witness + ")", x.trust(witness), due[witness]);
@@ -63,7 +47,7 @@ public final class WitnessesTest {
   // Promise 9
 
   private void read() {
-    KnotArchive x = archive(1, 2);
+    KnotArchive x = Scenes.beside(1, 2);
     x.hang(0, 0);
     x.tie(0, 100);
     x.tie(1, 20);
@@ -107,7 +91,7 @@ public final class WitnessesTest {
   // Promise 10
 
   private void remembers() {
-    KnotArchive x = archive(2, 2);
+    KnotArchive x = Scenes.beside(2, 2);
     for (int witness = 0; witness < 2; witness++) {
       for (int cord = 0; cord < 2; cord++) {
         checks.due("nothing read: what 0", x.remembers(witness, cord, 0), -1);
@@ -116,7 +100,7 @@ public final class WitnessesTest {
       }
     }
     x.pass(7);
-    readAs(x, 0, 1, 33);
+    Scenes.readAs(x, 0, 1, 33);
     checks.due("remembers(0, 1, 0)", x.remembers(0, 1, 0), 33);
     checks.due("remembers(0, 1, 1)", x.remembers(0, 1, 1), 7);
     checks.due("remembers(0, 1, 2)", x.remembers(0, 1, 2), 1);
@@ -137,7 +121,7 @@ public final class WitnessesTest {
   // Promise 11
 
   private void trust() {
-    KnotArchive x = archive(0, 2);
+    KnotArchive x = Scenes.beside(0, 2);
     trusts("at first", x, 10, 10);
     for (int far : FAR) {
       checks.refused("trust(" + far + ")", x, INDEX, () -> x.trust(far));
@@ -146,10 +130,10 @@ public final class WitnessesTest {
   }
 
   private void trustLimits() {
-    KnotArchive x = archive(1, 3);
-    readAs(x, 0, 0, 1);
-    readAs(x, 2, 0, 1);
-    readAs(x, 1, 0, 5);
+    KnotArchive x = Scenes.beside(1, 3);
+    Scenes.readAs(x, 0, 0, 1);
+    Scenes.readAs(x, 2, 0, 1);
+    Scenes.readAs(x, 1, 0, 5);
     for (int i = 1; i <= 12; i++) {
       checks.due("dispute " + i, x.dispute(0), 1);
       int gained = Math.min(20, 10 + i);
@@ -160,15 +144,15 @@ public final class WitnessesTest {
   // Promise 12
 
   private void disputeByTrust() {
-    KnotArchive x = archive(2, 3);
-    readAs(x, 2, 1, 8);
+    KnotArchive x = Scenes.beside(2, 3);
+    Scenes.readAs(x, 2, 1, 8);
     x.dispute(1);
     trusts("one alone", x, 10, 10, 11);
     x.pass(1);
-    readAs(x, 0, 0, 500);
-    readAs(x, 2, 0, 900);
+    Scenes.readAs(x, 0, 0, 500);
+    Scenes.readAs(x, 2, 0, 900);
     x.pass(1);
-    readAs(x, 1, 0, 100);
+    Scenes.readAs(x, 1, 0, 100);
     // 900 is neither the latest nor the smallest, but one of more trust remembers it.
     checks.due("the most trusted: dispute(0)", x.dispute(0), 900);
     trusts("the most trusted", x, 9, 9, 12);
@@ -176,51 +160,51 @@ public final class WitnessesTest {
   }
 
   private void disputeByJointTrust() {
-    KnotArchive x = archive(2, 6);
+    KnotArchive x = Scenes.beside(2, 6);
     for (int i = 0; i < 5; i++) {
-      readAs(x, 0, 1, 1);
+      Scenes.readAs(x, 0, 1, 1);
       x.dispute(1);
     }
     trusts("ahead", x, 15, 10, 10, 10, 10, 10);
-    readAs(x, 1, 0, 70);
-    readAs(x, 0, 0, 30);
-    readAs(x, 4, 0, 70);
-    readAs(x, 5, 0, 40);
+    Scenes.readAs(x, 1, 0, 70);
+    Scenes.readAs(x, 0, 0, 30);
+    Scenes.readAs(x, 4, 0, 70);
+    Scenes.readAs(x, 5, 0, 40);
     checks.due("20 against 15: dispute(0)", x.dispute(0), 70);
     trusts("20 against 15", x, 14, 11, 10, 10, 11, 9);
   }
 
   private void disputeByYear() {
-    KnotArchive x = archive(1, 4);
-    readAs(x, 0, 0, 40);
-    readAs(x, 2, 0, 30);
+    KnotArchive x = Scenes.beside(1, 4);
+    Scenes.readAs(x, 0, 0, 40);
+    Scenes.readAs(x, 2, 0, 30);
     x.pass(3);
-    readAs(x, 1, 0, 30);
+    Scenes.readAs(x, 1, 0, 30);
     x.pass(3);
-    readAs(x, 3, 0, 40);
+    Scenes.readAs(x, 3, 0, 40);
     // Both numbers have a trust of 20; 40 was read at first and, by another, in the latest year.
     checks.due("the later read: dispute(0)", x.dispute(0), 40);
     trusts("the later read", x, 11, 9, 9, 11);
 
-    KnotArchive y = archive(1, 2);
-    readAs(y, 0, 0, 50);
+    KnotArchive y = Scenes.beside(1, 2);
+    Scenes.readAs(y, 0, 0, 50);
     y.pass(1);
-    readAs(y, 1, 0, 60);
+    Scenes.readAs(y, 1, 0, 60);
     checks.due("60 is later: dispute(0)", y.dispute(0), 60);
 
-    KnotArchive z = archive(1, 2);
-    readAs(z, 1, 0, 60);
+    KnotArchive z = Scenes.beside(1, 2);
+    Scenes.readAs(z, 1, 0, 60);
     z.pass(1);
-    readAs(z, 0, 0, 50);
+    Scenes.readAs(z, 0, 0, 50);
     checks.due("50 is later: dispute(0)", z.dispute(0), 50);
   }
 
   private void disputeByNumber() {
     int[][] orders = {{70, 20, 50}, {20, 50, 70}, {50, 70, 20}};
     for (int[] order : orders) {
-      KnotArchive x = archive(1, 3);
+      KnotArchive x = Scenes.beside(1, 3);
       for (int witness = 0; witness < 3; witness++) {
-        readAs(x, witness, 0, order[witness]);
+        Scenes.readAs(x, witness, 0, order[witness]);
       }
       checks.due("the smallest: dispute(0)", x.dispute(0), 20);
       for (int witness = 0; witness < 3; witness++) {
@@ -241,25 +225,25 @@ public final class WitnessesTest {
 
   /** A number that nobody trusts is told all the same, if there is no other. */
   private void disputeWithoutTrust() {
-    KnotArchive x = archive(2, 4);
+    KnotArchive x = Scenes.beside(2, 4);
     for (int i = 0; i < 10; i++) {
-      readAs(x, 0, 0, 5);
-      readAs(x, 2, 0, 5);
-      readAs(x, 3, 0, 5);
-      readAs(x, 1, 0, 9);
+      Scenes.readAs(x, 0, 0, 5);
+      Scenes.readAs(x, 2, 0, 5);
+      Scenes.readAs(x, 3, 0, 5);
+      Scenes.readAs(x, 1, 0, 9);
       x.dispute(0);
     }
     trusts("ahead", x, 20, 0, 20, 20);
-    readAs(x, 1, 1, 77);
+    Scenes.readAs(x, 1, 1, 77);
     checks.due("no trust: dispute(1)", x.dispute(1), 77);
     trusts("no trust", x, 20, 1, 20, 20);
   }
 
   private void disputeOfOneCord() {
-    KnotArchive x = archive(2, 4);
-    readAs(x, 0, 0, 12);
-    readAs(x, 1, 0, 13);
-    readAs(x, 2, 1, 13);
+    KnotArchive x = Scenes.beside(2, 4);
+    Scenes.readAs(x, 0, 0, 12);
+    Scenes.readAs(x, 1, 0, 13);
+    Scenes.readAs(x, 2, 1, 13);
     checks.due("only who remembers it: dispute(0)", x.dispute(0), 12);
     trusts("only who remembers it", x, 11, 9, 10, 10);
     checks.due("again: dispute(1)", x.dispute(1), 13);
@@ -267,7 +251,7 @@ public final class WitnessesTest {
   }
 
   private void disputeRefuses() {
-    KnotArchive x = archive(2, 2);
+    KnotArchive x = Scenes.beside(2, 2);
     checks.refused("nobody read: dispute(0)", x, STATE, () -> x.dispute(0));
     x.read(0, 0);
     checks.refused("nobody read it: dispute(1)", x, STATE, () -> x.dispute(1));
@@ -280,7 +264,7 @@ public final class WitnessesTest {
   // Promise 13
 
   private void untying() {
-    KnotArchive x = archive(3, 2);
+    KnotArchive x = Scenes.beside(3, 2);
     checks.refused("none: untying(0, 0)", x, INDEX, () -> x.untying(0, 0));
     x.tie(2, 9999);
     x.tie(0, 9999);

@@ -31,26 +31,10 @@ public final class YearsTest {
     test.checks.end();
   }
 
-  private static KnotArchive single(int strand, int number) {
-    KnotArchive x = new KnotArchive();
-    x.hang(-1, strand);
-    x.tie(0, number);
-    return x;
-  }
-
-  /** A cord of this strand, with 0 tied, from which cords of the strand 0 with these numbers hang. */
-  private static KnotArchive under(int strand, int... numbers) {
-    KnotArchive x = single(strand, 0);
-    for (int number : numbers) {
-      x.tie(x.hang(0, 0), number);
-    }
-    return x;
-  }
-
   // Promise 14
 
   private void pass() {
-    KnotArchive x = single(0, 2109);
+    KnotArchive x = Scenes.single(0, 2109);
     checks.due("pass(9)", x.pass(9), 0);
     checks.due("9 years: place(0, 0, 1)", x.place(0, 0, 1), 9);
     checks.due("9 years: place(0, 2, 1)", x.place(0, 2, 1), 0);
@@ -72,7 +56,7 @@ public final class YearsTest {
   private void passByStrand() {
     for (int strand = 0; strand < 5; strand++) {
       boolean fast = strand == 2 || strand == 4;
-      KnotArchive x = single(strand, 30);
+      KnotArchive x = Scenes.single(strand, 30);
       x.pass(4);
       checks.due("strand " + strand + ", 4 years: place(0, 2, 1)", x.place(0, 2, 1), fast ? 8 : 4);
       checks.due("strand " + strand + ": pass(1)", x.pass(1), fast ? 1 : 0);
@@ -82,7 +66,7 @@ public final class YearsTest {
   }
 
   private void passRefuses() {
-    KnotArchive x = single(0, 9999);
+    KnotArchive x = Scenes.single(0, 9999);
     x.pass(1);
     for (int years : NO_YEARS) {
       checks.refused("pass(" + years + ")", x, ARGUMENT, () -> x.pass(years));
@@ -143,7 +127,7 @@ public final class YearsTest {
   // Promise 16
 
   private void fades() {
-    KnotArchive x = under(2, 2109, 35);
+    KnotArchive x = Scenes.bundled(2, 2109, 35);
     x.tie(0, 11);
     long before = x.digest();
     checks.due("fades(1, 9)", x.fades(1, 9), 2109);
@@ -167,7 +151,7 @@ public final class YearsTest {
   }
 
   private void fadesRefuses() {
-    KnotArchive x = single(0, 9999);
+    KnotArchive x = Scenes.single(0, 9999);
     x.pass(3);
     for (int cord : FAR) {
       checks.refused("fades(" + cord + ", 1)", x, INDEX, () -> x.fades(cord, 1));
@@ -182,7 +166,7 @@ public final class YearsTest {
   // Promise 17
 
   private void amends() {
-    KnotArchive x = under(0, 4000, 321);
+    KnotArchive x = Scenes.bundled(0, 4000, 321);
     checks.due("0 for 4321: amends(0)", x.amends(0), 4 + 3 + 2 + 1);
     x.tie(0, 1234);
     checks.due("1234 for 4321: amends(0)", x.amends(0), 3 + 1 + 1 + 3);
@@ -203,11 +187,11 @@ public final class YearsTest {
   }
 
   private void amendsOutside() {
-    KnotArchive x = under(0, 9999, 0);
+    KnotArchive x = Scenes.bundled(0, 9999, 0);
     checks.due("0 for 9999: amends(0)", x.amends(0), 36);
     x.tie(2, 1);
     checks.due("0 for 10000: amends(0)", x.amends(0), -1);
-    KnotArchive y = under(1, 5, 5);
+    KnotArchive y = Scenes.bundled(1, 5, 5);
     y.tie(0, 3);
     checks.due("3 for 0: amends(0)", y.amends(0), 3);
     y.tie(2, 6);
@@ -217,7 +201,7 @@ public final class YearsTest {
   // Promise 18
 
   private void weighs() {
-    KnotArchive x = under(4, 30, 200);
+    KnotArchive x = Scenes.bundled(4, 30, 200);
     checks.due("a knot at 30 is worth 200: weighs()", x.weighs(), 1);
     x.tie(1, 39);
     // With 9 knots at its place 3 there is no more to tie at the cord 1.
@@ -237,18 +221,18 @@ public final class YearsTest {
   }
 
   private void weighsTies() {
-    KnotArchive x = under(0, 1, 2, 3);
+    KnotArchive x = Scenes.bundled(0, 1, 2, 3);
     checks.due("all the same: weighs()", x.weighs(), 0);
     x.tie(0, 9);
     checks.due("without the cord 0: weighs()", x.weighs(), 1);
     x.tie(1, 19);
     checks.due("without the cord 1: weighs()", x.weighs(), 2);
     // What is behind a cord that takes from it changes it just as much.
-    KnotArchive less = under(1, 1, 2, 3);
+    KnotArchive less = Scenes.bundled(1, 1, 2, 3);
     less.tie(0, 9);
     less.tie(1, 9);
     checks.due("one less counts as one more: weighs()", less.weighs(), 2);
-    KnotArchive product = under(4, 100, 100);
+    KnotArchive product = Scenes.bundled(4, 100, 100);
     checks.due("100 each: weighs()", product.weighs(), 1);
   }
 
@@ -315,7 +299,7 @@ public final class YearsTest {
   private void weighsNothing() {
     KnotArchive x = new KnotArchive();
     checks.due("no cord: weighs()", x.weighs(), -1);
-    checks.due("one cord: weighs()", single(0, 8).weighs(), 0);
+    checks.due("one cord: weighs()", Scenes.single(0, 8).weighs(), 0);
     x.hang(-1, 3);
     x.tie(0, 9);
     checks.due("9 alone: weighs()", x.weighs(), -1);
@@ -384,7 +368,7 @@ public final class YearsTest {
   // Promise 20
 
   private void mean() {
-    KnotArchive x = single(0, 1);
+    KnotArchive x = Scenes.single(0, 1);
     checks.dueDouble("nobody: mean()", x.mean(), 0);
     x.call();
     checks.dueDouble("one: mean()", x.mean(), 10);
