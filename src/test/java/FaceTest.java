@@ -1,7 +1,10 @@
+import java.io.IOException;
 import java.lang.reflect.Constructor;
 import java.lang.reflect.Field;
 import java.lang.reflect.Method;
 import java.lang.reflect.Modifier;
+import java.nio.file.Files;
+import java.nio.file.Path;
 import java.util.Arrays;
 import java.util.TreeSet;
 
@@ -30,7 +33,14 @@ public final class FaceTest {
     "long digest()",
   };
 
-  public static void main(String[] args) {
+  /** "Ahead of the calls ... the interface says": each heading with the calls that stand behind it. */
+  private static final String[] ORDER = {
+    "---- cords", "hang", "tie", "untie", "mend", "cord", "place",
+    "---- witnesses", "call", "read", "remembers", "trust", "dispute", "untying",
+    "---- years and looking", "pass", "count", "fades", "amends", "weighs", "line", "mean", "digest",
+  };
+
+  public static void main(String[] args) throws IOException {
     Checks checks = new Checks("FaceTest");
     Class<?> face = KnotArchive.class;
     checks.holds("the class is public and final",
@@ -47,7 +57,29 @@ public final class FaceTest {
           Modifier.isStatic(inside.getModifiers())
               && (inside.getModifiers() & (Modifier.PUBLIC | Modifier.PROTECTED)) == 0);
     }
+    order(checks);
     checks.end();
+  }
+
+  private static void order(Checks checks) throws IOException {
+    String source = Files.readString(Path.of("src/main/java/KnotArchive.java"));
+    int at = source.indexOf("public KnotArchive()");
+    for (String next : ORDER) {
+      String sign = next.startsWith("----") ? "\n  // " + next + "\n" : " " + next + "(";
+      int found = next.startsWith("----") ? source.indexOf(sign, at) : publicMethod(source, sign, at);
+      checks.holds(next + " stands where the document has it", at >= 0 && found > at);
+      at = found;
+    }
+  }
+
+  private static int publicMethod(String source, String sign, int from) {
+    for (int start = source.indexOf("\n  public ", from); start >= 0; start = source.indexOf("\n  public ", start + 1)) {
+      int found = source.indexOf(sign, start);
+      if (found >= 0 && found < source.indexOf('\n', start + 1)) {
+        return found;
+      }
+    }
+    return -1;
   }
 
   private static void methods(Checks checks, Class<?> face) {
