@@ -77,7 +77,7 @@ public final class ReadmeTest {
   }
 
   private void run(String body) throws ReflectiveOperationException, IOException {
-    Path folder = Files.createTempDirectory("readme");
+    Path folder = Files.createTempDirectory(Path.of("build"), "readme");
     try {
       Path source = folder.resolve("ReadmeExamples.java");
       Files.writeString(source, "public final class ReadmeExamples implements"
